@@ -77,7 +77,7 @@ public final class IndexSort {
         if (changed.signs.isFull()) {
             throw new UnsupportedOperationException();
         }
-        changed.signs.add(c);
+        changed.addSign(c);
         changed.makeKey(digitsRule, wordsRule);
         forgetRows();
         return changed.signs.size();
@@ -106,6 +106,10 @@ public final class IndexSort {
             throw new IllegalArgumentException();
         }
         Entry changed = known(entry);
+        // One that has begun already keeps the next from beginning, and then no room is asked for.
+        if (!ends && changed.openRange < 0 && changed.pages.isFull()) {
+            throw new UnsupportedOperationException();
+        }
         int place = NUMBERS * KIND_STEP + n;
         boolean done = ends ? changed.endRange(place) : changed.beginRange(place);
         if (done) {
@@ -236,21 +240,34 @@ public final class IndexSort {
             return -1 - fault;
         }
         findRows();
-        writeDraft();
+        draft.clear();
+        int groupBefore = -1;
+        for (int k = 0; k < rows.size() && !draft.tooLong; k++) {
+            int row = rows.get(k);
+            int level = known(row).level;
+            int group = groupOf(row);
+            findLocators(row);
+            findSeen(row);
+            if (level == 0 && group != groupBefore) {
+                writePart(0, row, group);
+                groupBefore = group;
+            }
+            writePart(1 + level, row, group);
+        }
         if (draft.tooLong) {
             throw new UnsupportedOperationException();
         }
         Paper old = out;
         out = draft;
         draft = old;
-        return out.bytes.size();
+        return out.size();
     }
 
     public int at(int i) throws ArrayIndexOutOfBoundsException {
-        if (i < 0 || i >= out.bytes.size()) {
+        if (i < 0 || i >= out.size()) {
             throw new ArrayIndexOutOfBoundsException();
         }
-        return out.bytes.get(i);
+        return out.get(i);
     }
 
     // ---- entries
@@ -327,7 +344,7 @@ public final class IndexSort {
     private boolean isSame(Entry one, Entry other) {
         return one.level == other.level
                 && firstOf(one.above) == firstOf(other.above)
-                && one.signs.orderTo(other.signs) == 0;
+                && one.ranks.orderTo(other.ranks) == 0;
     }
 
     private int firstOf(int e) {
@@ -337,19 +354,13 @@ public final class IndexSort {
     private void sortFirsts() {
         sorted.clear();
         for (int e = 0; e < entryCount; e++) {
-            if (firstOf(e) == e) {
-                sorted.add(e);
-                sinkLastSorted();
+            if (firstOf(e) != e) {
+                continue;
             }
-        }
-    }
-
-    private void sinkLastSorted() {
-        for (int k = sorted.size() - 1; k > 0; k--) {
-            if (known(sorted.get(k)).orderTo(known(sorted.get(k - 1))) >= 0) {
-                return;
+            sorted.add(e);
+            for (int k = sorted.size() - 1; k > 0 && known(e).orderTo(known(sorted.get(k - 1))) < 0; k--) {
+                sorted.swap(k, k - 1);
             }
-            sorted.swap(k, k - 1);
         }
     }
 
@@ -501,22 +512,8 @@ public final class IndexSort {
         return c == 'w' || c == 'p' || c == 's' || c == 'g' || c == 'n' || c == '%';
     }
 
-    private void writeDraft() {
-        draft.clear();
-        int groupBefore = -1;
-        for (int k = 0; k < rows.size() && !draft.tooLong; k++) {
-            int row = rows.get(k);
-            int level = known(row).level;
-            int group = groupOf(row);
-            if (level == 0 && group != groupBefore) {
-                writePart(0, row);
-                groupBefore = group;
-            }
-            writePart(1 + level, row);
-        }
-    }
-
-    private void writePart(int part, int row) {
+    /** A part of the style for a row whose locators and rows to see have been found; part 0 is that of groups. */
+    private void writePart(int part, int row, int group) {
         int bars = 0;
         for (int k = 0; k < style.size(); k++) {
             int c = style.get(k);
@@ -525,7 +522,7 @@ public final class IndexSort {
             } else if (c == '%') {
                 k++;
                 if (bars == part) {
-                    writeMark(style.get(k), part > 0, row);
+                    writeMark(style.get(k), part > 0, row, group);
                 }
             } else if (bars == part) {
                 draft.put(c);
@@ -533,44 +530,36 @@ public final class IndexSort {
         }
     }
 
-    private void writeMark(int mark, boolean ofRow, int row) {
+    private void writeMark(int mark, boolean ofRow, int row, int group) {
         if (mark == '%') {
             draft.put('%');
         } else if (mark == 'n') {
             draft.put(10);
         } else if (mark == 'g') {
-            writeGroup(groupOf(row));
+            draft.put(group < 'a' ? '0' + group : group);
         } else if (mark == 'w' && ofRow) {
             draft.putAll(known(row).signs);
         } else if (mark == 'p' && ofRow) {
-            writeLocators(row);
+            writeLocators();
         } else if (mark == 's' && ofRow) {
-            writeSeen(row);
+            writeSeen();
         }
     }
 
-    private void writeGroup(int group) {
-        draft.put(group < 'a' ? '0' + group : group);
-    }
-
-    private void writeLocators(int row) {
-        findLocators(row);
+    private void writeLocators() {
         for (int j = 0; j < locators.size(); j++) {
             if (j > 0) {
                 draft.putBetween(',');
             }
-            int from = locators.from(j);
-            int to = locators.to(j);
-            draft.putPage(from / KIND_STEP, from % KIND_STEP);
-            if (to != from) {
+            draft.putPage(locators.from(j));
+            if (locators.to(j) != locators.from(j)) {
                 draft.put('-');
-                draft.putPage(to / KIND_STEP, to % KIND_STEP);
+                draft.putPage(locators.to(j));
             }
         }
     }
 
-    private void writeSeen(int row) {
-        findSeen(row);
+    private void writeSeen() {
         for (int k = 0; k < seen.size(); k++) {
             if (k > 0) {
                 draft.putBetween(';');
@@ -730,6 +719,8 @@ public final class IndexSort {
         private final int level;
         private final int above;
         private final Ints signs = new Ints(MOST_SIGNS);
+        /** One for each sign, in whose order words of equal keys stand. */
+        private final Ints ranks = new Ints(MOST_SIGNS);
         private final Ints key = new Ints(2 * MOST_SIGNS);
         private final Spans pages = new Spans(MOST_PAGES);
         private final Ints sees = new Ints(MOST_SEES);
@@ -746,12 +737,14 @@ public final class IndexSort {
             this.above = above;
         }
 
+        void addSign(int sign) {
+            signs.add(sign);
+            ranks.add(rankOf(sign));
+        }
+
         boolean beginRange(int place) {
             if (openRange >= 0) {
                 return false;
-            }
-            if (pages.isFull()) {
-                throw new UnsupportedOperationException();
             }
             openRange = pages.size();
             pages.add(place, place, false);
@@ -829,18 +822,7 @@ public final class IndexSort {
 
         int orderTo(Entry other) {
             int byKeys = key.orderTo(other.key);
-            return byKeys != 0 ? byKeys : orderOfSigns(other);
-        }
-
-        private int orderOfSigns(Entry other) {
-            for (int k = 0; k < signs.size() && k < other.signs.size(); k++) {
-                int mine = rankOf(signs.get(k));
-                int its = rankOf(other.signs.get(k));
-                if (mine != its) {
-                    return mine < its ? -1 : 1;
-                }
-            }
-            return signs.size() == other.signs.size() ? 0 : signs.size() < other.signs.size() ? -1 : 1;
+            return byKeys != 0 ? byKeys : ranks.orderTo(other.ranks);
         }
 
         /** Ranks of signs differ where the signs do: by the small letter, then the great one, then the mark. */
@@ -889,17 +871,34 @@ public final class IndexSort {
 
     /** Bytes being written, up to the most that an out may have. */
     private static final class Paper {
-        private final Ints bytes = new Ints(MOST_OUT);
+        private byte[] room = new byte[0];
+        private int size = 0;
         private boolean tooLong = false;
 
+        int size() {
+            return size;
+        }
+
+        int get(int i) {
+            return i >= 0 && i < size && i < room.length ? room[i] & 255 : 0;
+        }
+
         void clear() {
-            bytes.clear();
+            size = 0;
             tooLong = false;
+            // Made when it is first written on, since many an index is never printed.
+            if (room.length < MOST_OUT) {
+                room = new byte[MOST_OUT];
+            }
         }
 
         void put(int c) {
-            tooLong = tooLong || bytes.isFull();
-            bytes.add(c);
+            if (size < 0 || size >= room.length) {
+                tooLong = true;
+                return;
+            }
+            room[size] = (byte) c;
+            size++;
         }
 
         void putAll(Ints signs) {
@@ -913,21 +912,22 @@ public final class IndexSort {
             put(' ');
         }
 
-        void putPage(int kind, int n) {
-            if (kind == ROMAN) {
-                putRoman(n);
-            } else if (kind == NUMBERS) {
-                putNumber(n);
-            } else {
-                putLetters(n);
+        void putPage(int place) {
+            int n = place % KIND_STEP;
+            switch (place / KIND_STEP) {
+                case ROMAN:
+                    putRomanDigit(n / 1000, 'm', 'm', 'm');
+                    putRomanDigit(n / 100 % 10, 'c', 'd', 'm');
+                    putRomanDigit(n / 10 % 10, 'x', 'l', 'c');
+                    putRomanDigit(n % 10, 'i', 'v', 'x');
+                    break;
+                case NUMBERS:
+                    putNumber(n);
+                    break;
+                default:
+                    putLetters(n);
+                    break;
             }
-        }
-
-        private void putRoman(int n) {
-            putRomanDigit(n / 1000, 'm', 'm', 'm');
-            putRomanDigit(n / 100 % 10, 'c', 'd', 'm');
-            putRomanDigit(n / 10 % 10, 'x', 'l', 'c');
-            putRomanDigit(n % 10, 'i', 'v', 'x');
         }
 
         private void putRomanDigit(int digit, int one, int five, int ten) {

@@ -30,7 +30,8 @@ public final class CompareTest {
 
     /** Every list is in order, so that each pair of it says what compare answers. */
     private static void lists(Checks c) {
-        inOrder(c, true, true, "", "0", "1", "1 2", "1a", "2", "9", "10", "a", "a 1", "a b", "a1", "a9", "a10", "aa", "b", "z");
+        inOrder(c, true, true, "", "0", "1", "1 2", "1a", "2", "9", "10", "a", "a 0", "a 1", "a b", "a b c",
+            "a bb", "a0", "a1", "a9", "a10", "aa", "b", "z");
         inOrder(c, true, true, "", "\0", " ", "-", "\u00b0", "0", "00", "1");
         inOrder(c, true, true, "a", "a!", "\u00e1", "A", "\u00c1", "aa");
         inOrder(c, true, true, "ab", "aB", "\u00e1b", "Ab", "AB", "\u00c1b");

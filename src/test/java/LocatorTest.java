@@ -72,6 +72,13 @@ public final class LocatorTest {
         x.page(e, 1, 21);
         Checks.range(x, e, 22, 29);
         c.due("a gap is closed", Checks.locators(x, 0), "1:5-31 1:40-41");
+
+        IndexSort y = new IndexSort();
+        int f = y.entry(0, -1);
+        Checks.pages(y, f, 1, 10, 30);
+        Checks.range(y, f, 10, 11);
+        Checks.range(y, f, 31, 31);
+        c.due("ranges that do not begin their rows", Checks.locators(y, 0), "1:10-11 1:30-31");
     }
 
     private static void joined(Checks c) {
@@ -86,6 +93,7 @@ public final class LocatorTest {
         x.page(two, 1, 2);
         c.due("pages of all that are the same", Checks.locators(x, 0), "1:1-3");
         c.due("and of no other", Checks.locators(x, 1), "1:8-8");
+        c.due("the first row again", Checks.locators(x, 0), "1:1-3");
         x.sign(two, 'x');
         c.due("parted", Checks.locators(x, 0), "1:1-1 1:3-3");
         c.due("parted: its own", Checks.locators(x, 1), "1:2-2");

@@ -134,29 +134,32 @@ public final class PrintTest {
         int last = x.entry(0, -1);
         c.due("80 rows of 75 are the most", x.print(), 6000);
         c.due("the last byte", x.at(5999), 'x');
-        x.sign(last, '1');
-        Checks.style(x, "%g|" + "y".repeat(75) + "||");
+        Checks.style(x, "|" + "y".repeat(74) + "%w||");
         c.thrown("more than 6000", Checks.UNSUPPORTED, () -> x.print());
         c.due("the out stays", x.at(0), 'x');
         c.due("the out stays to its end", x.at(5999), 'x');
         c.thrown("behind its end", Checks.ARRAY_INDEX, () -> x.at(6000));
-        Checks.style(x, "|y||");
-        c.due("a short one", x.print(), 80);
-        c.due("is another one", x.at(0), 'y');
-        c.thrown("nothing of the old one is left", Checks.ARRAY_INDEX, () -> x.at(80));
+        Checks.style(x, "|%w||");
+        c.due("a short one", x.print(), 158);
+        c.due("is another one", x.at(0), 'a');
+        c.thrown("nothing of the old one is left", Checks.ARRAY_INDEX, () -> x.at(158));
+        c.due("the last one has no words", x.sign(last, 'z'), 1);
+        onlyOneTooMany(c);
+    }
 
-        IndexSort z = new IndexSort();
-        for (int k = 0; k < 75; k++) {
-            Checks.top(z, "" + (char) ('a' + k / 26) + (char) ('a' + k % 26));
+    private static void onlyOneTooMany(Checks c) {
+        IndexSort x = new IndexSort();
+        for (int k = 0; k < 80; k++) {
+            x.sign(x.entry(0, -1), k < 26 ? 'a' + k : k < 52 ? 'A' + k - 26 : 150 + k);
         }
-        Checks.style(z, "|" + "x".repeat(77) + "||");
-        c.due("75 rows of 77", z.print(), 5775);
-        z.entry(0, -1);
-        Checks.top(z, "A");
-        Checks.top(z, "B");
-        c.thrown("6006 bytes", Checks.UNSUPPORTED, () -> {
-            Checks.style(z, "|" + "x".repeat(77) + "||");
-            return z.print();
-        });
+        Checks.style(x, "|" + "x".repeat(73) + "%w%p||");
+        c.due("80 rows of 74", x.print(), 5920);
+        for (int k = 0; k < 20; k++) {
+            x.page(k, 1, 1000 + k);
+        }
+        c.due("6000 bytes", x.print(), 6000);
+        x.page(77, 2, 1);
+        c.thrown("6001 bytes", Checks.UNSUPPORTED, () -> x.print());
+        c.thrown("the out stays", Checks.ARRAY_INDEX, () -> x.at(6000));
     }
 }

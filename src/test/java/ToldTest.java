@@ -59,6 +59,8 @@ public final class ToldTest {
         c.due("a page of the same one", Checks.warnings(x), "");
         x.see(b, one);
         c.due("pages of its row", Checks.warnings(x), "");
+        x.sign(two, 'x');
+        c.due("parted", Checks.warnings(x), "3:0:0 2:2:0");
         IndexSort y = new IndexSort();
         Checks.top(y, "a");
         int again = Checks.top(y, "a");
@@ -72,5 +74,9 @@ public final class ToldTest {
         z.see(same, Checks.top(z, "c"));
         z.page(2, 1, 1);
         c.due("something to see at the same one", Checks.warnings(z), "");
+        z.sign(same, 'x');
+        c.due("it is at another one now", Checks.warnings(z), "3:0:0");
+        y.sign(again, 'x');
+        c.due("it is under another one now", Checks.warnings(y), "3:0:0 2:1:2 3:2:0");
     }
 }

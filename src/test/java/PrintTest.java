@@ -20,6 +20,10 @@ public final class PrintTest {
             Checks.style(x, styles[k]);
             c.due("print by [" + styles[k] + "]", x.print(), due[k] < 0 ? 0 : -1 - due[k]);
         }
+        IndexSort y = new IndexSort();
+        Checks.style(y, "|||%w");
+        Checks.style(y, "|||%");
+        c.due("nothing is left of a style that is gone", y.print(), -4);
         IndexSort x = new IndexSort();
         Checks.top(x, "abc");
         Checks.style(x, "|%w||");

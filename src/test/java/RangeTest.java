@@ -51,5 +51,13 @@ public final class RangeTest {
         c.thrown("a wrong number at full pages", Checks.ARGUMENT, () -> x.range(0, 0, false));
         c.due("ends, and none has begun, at full pages", x.range(0, 200, true), 0);
         c.due("20 locators", x.row(0, 2), 20);
+
+        IndexSort y = new IndexSort();
+        y.entry(0, -1);
+        c.due("the first one is a range", y.range(0, 100, false), 1);
+        for (int k = 1; k <= 19; k++) {
+            y.page(0, 1, 2 * k);
+        }
+        c.due("a full entry whose first range has not ended", y.range(0, 101, false), 0);
     }
 }

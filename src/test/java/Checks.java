@@ -13,6 +13,12 @@ final class Checks {
     }
 
     private int wrong = 0;
+    private String words = "";
+
+    /** The words of the document that the next checks are of; DocumentTest looks whether all of it is checked. */
+    void words(String quoted) {
+        words = quoted;
+    }
 
     void due(String what, long got, long want) {
         if (got != want) {
@@ -26,22 +32,27 @@ final class Checks {
         }
     }
 
-    /** The very class, and no message: the machine's own exceptions tell an index, ours tell nothing. */
+    /** The very class, and thrown by hand. */
     void thrown(String what, Class<?> want, Call call) {
         try {
             int got = call.answer();
             fail(what + " answered " + got + ", due is " + want.getSimpleName());
         } catch (RuntimeException e) {
-            if (e.getClass() != want || e.getMessage() != null) {
+            if (e.getClass() != want || !isByHand(e)) {
                 fail(what + " threw " + e + ", due is " + want.getSimpleName());
             }
         }
     }
 
+    /** The machine's own exceptions have a text or, once it has thrown many of them, no stack. */
+    static boolean isByHand(RuntimeException e) {
+        return e.getMessage() == null && e.getStackTrace().length > 0;
+    }
+
     void fail(String message) {
         wrong++;
         if (wrong <= 50) {
-            System.out.println(message);
+            System.out.println(words.isEmpty() ? message : "\"" + words + "\": " + message);
         }
     }
 
@@ -52,11 +63,20 @@ final class Checks {
         }
     }
 
-    static int top(IndexSort x, String words) {
+    /** A new index of entries of level 0 with these words. */
+    static Book tops(String... words) {
+        Book x = new Book();
+        for (String w : words) {
+            top(x, w);
+        }
+        return x;
+    }
+
+    static int top(Book x, String words) {
         return under(x, -1, 0, words);
     }
 
-    static int under(IndexSort x, int above, int level, String words) {
+    static int under(Book x, int above, int level, String words) {
         int entry = x.entry(level, above);
         for (int k = 0; k < words.length(); k++) {
             x.sign(entry, words.charAt(k));
@@ -64,25 +84,31 @@ final class Checks {
         return entry;
     }
 
-    static void pages(IndexSort x, int entry, int kind, int... numbers) {
+    static void pages(Book x, int entry, int kind, int... numbers) {
         for (int n : numbers) {
             x.page(entry, kind, n);
         }
     }
 
-    static void range(IndexSort x, int entry, int from, int to) {
+    static void range(Book x, int entry, int from, int to) {
         x.range(entry, from, false);
         x.range(entry, to, true);
     }
 
-    static void style(IndexSort x, String style) {
+    static void style(Book x, String style) {
         x.style(0);
         for (int k = 0; k < style.length(); k++) {
             x.style(style.charAt(k));
         }
     }
 
-    static String rows(IndexSort x) {
+    static void see(Book x, int entry, int... others) {
+        for (int other : others) {
+            x.see(entry, other);
+        }
+    }
+
+    static String rows(Book x) {
         StringBuilder text = new StringBuilder();
         int count = x.run();
         for (int i = 0; i < count; i++) {
@@ -91,7 +117,7 @@ final class Checks {
         return text.toString();
     }
 
-    static String locators(IndexSort x, int row) {
+    static String locators(Book x, int row) {
         StringBuilder text = new StringBuilder();
         int count = x.row(row, 2);
         for (int j = 0; j < count; j++) {
@@ -101,7 +127,7 @@ final class Checks {
         return text.toString();
     }
 
-    static String warnings(IndexSort x) {
+    static String warnings(Book x) {
         StringBuilder text = new StringBuilder();
         int count = x.told(-1, 0);
         for (int i = 0; i < count; i++) {
@@ -111,7 +137,7 @@ final class Checks {
         return text.toString();
     }
 
-    static String printed(IndexSort x) {
+    static String printed(Book x) {
         int count = x.print();
         if (count < 0) {
             return "fault " + (-1 - count);
@@ -119,7 +145,7 @@ final class Checks {
         return outOf(x, count);
     }
 
-    static String outOf(IndexSort x, int count) {
+    static String outOf(Book x, int count) {
         StringBuilder text = new StringBuilder();
         for (int i = 0; i < count; i++) {
             text.append((char) x.at(i));

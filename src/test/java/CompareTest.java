@@ -2,24 +2,42 @@
 public final class CompareTest {
     public static void main(String[] args) {
         Checks c = new Checks();
-        wrong(c);
+        c.words("Whether an entry's words are before another one's in ORDER (-1), behind it (1), or the same (0).");
         lists(c);
         equal(c);
+        mostEntries(c);
+        refused(c);
         c.end();
     }
 
-    private static void wrong(Checks c) {
-        IndexSort x = new IndexSort();
-        x.entry(0, -1);
-        c.thrown("a -1", Checks.NO_ELEMENT, () -> x.compare(-1, 0));
-        c.thrown("b -1", Checks.NO_ELEMENT, () -> x.compare(0, -1));
-        c.thrown("a 1", Checks.NO_ELEMENT, () -> x.compare(1, 0));
-        c.thrown("b 1", Checks.NO_ELEMENT, () -> x.compare(0, 1));
+    private static void refused(Checks c) {
+        c.words("NoSuchElementException.");
+        Book x = Checks.tops("", "a");
+        for (int e : new int[] {Integer.MIN_VALUE, -2, -1, 2, 3, 79, 80, Integer.MAX_VALUE}) {
+            c.thrown("a " + e, Checks.NO_ELEMENT, () -> x.compare(e, 0));
+            c.thrown("b " + e, Checks.NO_ELEMENT, () -> x.compare(0, e));
+            c.thrown("both " + e, Checks.NO_ELEMENT, () -> x.compare(e, e));
+        }
         c.due("itself", x.compare(0, 0), 0);
+        c.due("the last one itself", x.compare(1, 1), 0);
+        c.due("the first and the last one", x.compare(0, 1), -1);
+        Book none = new Book();
+        c.thrown("no entries", Checks.NO_ELEMENT, () -> none.compare(0, 0));
+    }
+
+    private static void mostEntries(Checks c) {
+        Book x = new Book();
+        for (int k = 0; k < 80; k++) {
+            x.entry(0, -1);
+        }
+        c.due("without words", x.compare(0, 79), 0);
+        x.sign(79, 0);
+        c.due("the last one has a sign", x.compare(79, 0), 1);
+        c.due("the one before has none", x.compare(78, 79), -1);
     }
 
     private static void equal(Checks c) {
-        IndexSort x = new IndexSort();
+        Book x = new Book();
         int a = Checks.top(x, "ab");
         int under = Checks.under(x, a, 1, "ab");
         c.due("levels do not count", x.compare(a, under), 0);
@@ -49,7 +67,7 @@ public final class CompareTest {
     }
 
     private static void inOrder(Checks c, boolean digits, boolean words, String... list) {
-        IndexSort x = new IndexSort();
+        Book x = new Book();
         x.rule(0, digits);
         x.rule(1, words);
         for (String s : list) {

@@ -2,31 +2,63 @@
 public final class LocatorTest {
     public static void main(String[] args) {
         Checks c = new Checks();
-        wrong(c);
+        c.words("Of locator j of row i: 0 its kind, 1 from, 2 to.");
+        fields(c);
         rowsOfPages(c);
         toldRanges(c);
         joined(c);
+        refused(c);
         c.end();
     }
 
-    private static void wrong(Checks c) {
-        IndexSort x = new IndexSort();
-        int a = Checks.top(x, "a");
-        Checks.top(x, "b");
-        x.page(a, 1, 5);
-        int[][] wrong = {{0, 1, 0}, {0, -1, 0}, {0, 0, 3}, {0, 0, -1}, {1, 0, 0}, {2, 0, 0}, {-1, 0, 0}};
-        for (int[] w : wrong) {
-            c.thrown("locator " + w[0] + ", " + w[1] + ", " + w[2], Checks.INDEX, () -> x.locator(w[0], w[1], w[2]));
-        }
+    private static void fields(Checks c) {
+        Book x = Checks.tops("a", "b");
+        x.page(0, 1, 5);
         c.due("kind", x.locator(0, 0, 0), 1);
         c.due("from", x.locator(0, 0, 1), 5);
         c.due("to", x.locator(0, 0, 2), 5);
-        x.page(a, 0, 7);
+        x.page(0, 0, 7);
         c.due("a new page is there at once", x.locator(0, 0, 1), 7);
+        c.due("its kind", x.locator(0, 0, 0), 0);
+        Checks.pages(x, 0, 2, 702, 701, 700);
+        c.due("the last kind", x.locator(0, 2, 0), 2);
+        c.due("its from", x.locator(0, 2, 1), 700);
+        c.due("its to", x.locator(0, 2, 2), 702);
+        Checks.range(x, 1, 1, 99999);
+        c.due("of the next row: kind", x.locator(1, 0, 0), 1);
+        c.due("of the next row: from", x.locator(1, 0, 1), 1);
+        c.due("of the next row: to", x.locator(1, 0, 2), 99999);
+    }
+
+    private static void refused(Checks c) {
+        c.words("IndexOutOfBoundsException.");
+        Book x = Checks.tops("a", "b", "a", "c");
+        x.page(0, 1, 5);
+        x.page(2, 1, 9);
+        x.page(3, 1, 1);
+        int[] far = {Integer.MIN_VALUE, -1, 3, 4, Integer.MAX_VALUE};
+        for (int n : far) {
+            c.thrown("row " + n, Checks.INDEX, () -> x.locator(n, 0, 0));
+            c.thrown("locator " + n, Checks.INDEX, () -> x.locator(0, n, 0));
+            c.thrown("what " + n, Checks.INDEX, () -> x.locator(0, 0, n));
+            c.thrown("all " + n, Checks.INDEX, () -> x.locator(n, n, n));
+        }
+        c.due("the last locator", x.locator(0, 1, 1), 9);
+        c.thrown("behind it", Checks.INDEX, () -> x.locator(0, 2, 1));
+        c.thrown("a row without any", Checks.INDEX, () -> x.locator(1, 0, 1));
+        c.due("the last row", x.locator(2, 0, 1), 1);
+        c.thrown("the last row's second", Checks.INDEX, () -> x.locator(2, 1, 1));
+        Book none = new Book();
+        c.thrown("no rows", Checks.INDEX, () -> none.locator(0, 0, 0));
+        Book empty = Checks.tops("a");
+        for (int what = -1; what <= 3; what++) {
+            int w = what;
+            c.thrown("no locators, " + w, Checks.INDEX, () -> empty.locator(0, 0, w));
+        }
     }
 
     private static String of(int kind, int... numbers) {
-        IndexSort x = new IndexSort();
+        Book x = new Book();
         Checks.pages(x, x.entry(0, -1), kind, numbers);
         return Checks.locators(x, 0);
     }
@@ -41,7 +73,7 @@ public final class LocatorTest {
         c.due("Roman ones", of(0, 3, 2, 1, 3999, 3998), "0:1-3 0:3998-3998 0:3999-3999");
         c.due("letters", of(2, 26, 27, 28, 702), "2:26-28 2:702-702");
 
-        IndexSort x = new IndexSort();
+        Book x = new Book();
         int e = x.entry(0, -1);
         Checks.pages(x, e, 2, 3, 1);
         Checks.pages(x, e, 1, 2, 99999);
@@ -50,7 +82,7 @@ public final class LocatorTest {
     }
 
     private static void toldRanges(Checks c) {
-        IndexSort x = new IndexSort();
+        Book x = new Book();
         int e = x.entry(0, -1);
         Checks.range(x, e, 10, 11);
         c.due("a range of two", Checks.locators(x, 0), "1:10-11");
@@ -73,7 +105,7 @@ public final class LocatorTest {
         Checks.range(x, e, 22, 29);
         c.due("a gap is closed", Checks.locators(x, 0), "1:5-31 1:40-41");
 
-        IndexSort y = new IndexSort();
+        Book y = new Book();
         int f = y.entry(0, -1);
         Checks.pages(y, f, 1, 10, 30);
         Checks.range(y, f, 10, 11);
@@ -82,7 +114,7 @@ public final class LocatorTest {
     }
 
     private static void joined(Checks c) {
-        IndexSort x = new IndexSort();
+        Book x = new Book();
         int one = Checks.top(x, "a");
         int b = Checks.top(x, "b");
         int two = Checks.top(x, "a");

@@ -192,8 +192,7 @@ public final class ModelTest {
         try {
             return call.answer();
         } catch (RuntimeException e) {
-            boolean thrownByHand = e.getMessage() == null;
-            return Integer.MIN_VALUE + (thrownByHand ? Math.abs(e.getClass().getName().hashCode() % 1000000) : -1);
+            return Integer.MIN_VALUE + (Checks.isByHand(e) ? Math.abs(e.getClass().getName().hashCode() % 1000000) : -1);
         }
     }
 }

@@ -1,15 +1,17 @@
-/** Promise 9: row; the ORDER of rows and their GROUPS. */
+/** Promise 9: row. */
 public final class RowTest {
     public static void main(String[] args) {
         Checks c = new Checks();
         fields(c);
-        groups(c);
         order(c);
+        atOnce(c);
+        refused(c);
         c.end();
     }
 
     private static void fields(Checks c) {
-        IndexSort x = new IndexSort();
+        c.words("Of row i: 0 its entry, 1 its level, 2 how many locators, 3 how many rows to see, 4 its group.");
+        Book x = new Book();
         int tree = Checks.top(x, "Tree");
         int leaf = Checks.under(x, tree, 1, "leaf");
         int vein = Checks.under(x, leaf, 2, "9");
@@ -25,29 +27,11 @@ public final class RowTest {
                 c.due("row " + i + ", " + what, x.row(i, what), due[i][what]);
             }
         }
-        int[][] wrong = {{3, 0}, {-1, 0}, {0, 5}, {0, -1}, {3, 5}, {Integer.MIN_VALUE, 0}, {0, Integer.MAX_VALUE}};
-        for (int[] w : wrong) {
-            c.thrown("row " + w[0] + ", " + w[1], Checks.INDEX, () -> x.row(w[0], w[1]));
-        }
-    }
-
-    private static void groups(Checks c) {
-        String[] words = {"", " -!", "7", "(0)", "\u00b1", "\u00c1b", "zz", "-Zebra", "1a"};
-        int[] due = {0, 0, 1, 1, 0, 'a', 'z', 'z', 1};
-        for (int k = 0; k < words.length; k++) {
-            IndexSort x = new IndexSort();
-            Checks.under(x, Checks.top(x, words[k]), 1, "q");
-            for (int rules = 0; rules < 4; rules++) {
-                x.rule(0, rules % 2 == 0);
-                x.rule(1, rules < 2);
-                c.due("group of [" + words[k] + "]", x.row(0, 4), due[k]);
-                c.due("group under [" + words[k] + "]", x.row(1, 4), due[k]);
-            }
-        }
     }
 
     private static void order(Checks c) {
-        IndexSort x = new IndexSort();
+        c.words("Of row i: 0 its entry, 1 its level, 2 how many locators, 3 how many rows to see, 4 its group.");
+        Book x = new Book();
         int b = Checks.top(x, "b");
         int a = Checks.top(x, "a");
         int bz = Checks.under(x, b, 1, "z");
@@ -59,6 +43,51 @@ public final class RowTest {
         c.due("levels", Checks.rows(x), a + " " + az + " " + b + " " + by + " " + by1 + " " + bz + " " + bz1 + " " + bz2);
         x.sign(a, 'c');
         x.sign(b, 'a');
-        c.due("a key that goes on", Checks.rows(x).startsWith(a + " ") ? 1 : 0, 1);
+        c.due("a key that goes on", x.row(0, 0), a);
+    }
+
+    private static void atOnce(Checks c) {
+        c.words("Of row i: 0 its entry, 1 its level, 2 how many locators, 3 how many rows to see, 4 its group.");
+        Book x = Checks.tops("m", "n");
+        c.due("no locators", x.row(0, 2), 0);
+        x.page(0, 1, 1);
+        c.due("a page", x.row(0, 2), 1);
+        x.range(0, 5, false);
+        c.due("a range begins", x.row(0, 2), 2);
+        x.page(0, 1, 7);
+        c.due("a page more", x.row(0, 2), 3);
+        x.range(0, 6, true);
+        c.due("the range ends", x.row(0, 2), 2);
+        x.see(0, 1);
+        c.due("one to see", x.row(0, 3), 1);
+        x.sign(1, 'x');
+        c.due("its words have changed", x.row(0, 3), 1);
+        Checks.top(x, "a");
+        c.due("another row is first", x.row(0, 4), 'a');
+        c.due("it has no locators", x.row(0, 2), 0);
+        c.due("the row behind it has them", x.row(1, 2), 2);
+        c.due("the row behind it has them, asked again", x.row(1, 2), 2);
+        c.due("the row behind that has none", x.row(2, 2), 0);
+    }
+
+    private static void refused(Checks c) {
+        c.words("IndexOutOfBoundsException.");
+        Book x = Checks.tops("a", "b", "a");
+        for (int what = -1; what <= 5; what++) {
+            int w = what;
+            c.thrown("row -1, " + w, Checks.INDEX, () -> x.row(-1, w));
+            c.thrown("row 2, " + w + ": an entry, and no row", Checks.INDEX, () -> x.row(2, w));
+            c.thrown("row 3, " + w, Checks.INDEX, () -> x.row(3, w));
+            c.thrown("the least row, " + w, Checks.INDEX, () -> x.row(Integer.MIN_VALUE, w));
+            c.thrown("the greatest row, " + w, Checks.INDEX, () -> x.row(Integer.MAX_VALUE, w));
+        }
+        for (int what : new int[] {Integer.MIN_VALUE, -1, 5, 6, Integer.MAX_VALUE}) {
+            c.thrown("row 0, " + what, Checks.INDEX, () -> x.row(0, what));
+            c.thrown("row 1, " + what, Checks.INDEX, () -> x.row(1, what));
+        }
+        c.due("the last row", x.row(1, 0), 1);
+        Book none = new Book();
+        c.thrown("no rows", Checks.INDEX, () -> none.row(0, 0));
+        c.thrown("no rows, and what 5", Checks.INDEX, () -> none.row(0, 5));
     }
 }

@@ -2,13 +2,15 @@
 public final class RunTest {
     public static void main(String[] args) {
         Checks c = new Checks();
+        c.words("How many ROWS there are.");
         joined(c);
         under(c);
+        most(c);
         c.end();
     }
 
     private static void joined(Checks c) {
-        IndexSort x = new IndexSort();
+        Book x = new Book();
         c.due("none", x.run(), 0);
         x.entry(0, -1);
         c.due("one without words", x.run(), 1);
@@ -30,7 +32,7 @@ public final class RunTest {
     }
 
     private static void under(Checks c) {
-        IndexSort x = new IndexSort();
+        Book x = new Book();
         int a = Checks.top(x, "a");
         int b = Checks.top(x, "b");
         int leaf = Checks.under(x, a, 1, "leaf");
@@ -49,5 +51,17 @@ public final class RunTest {
         x.sign(b, 'b');
         x.sign(a, 'a');
         c.due("joined anew", Checks.rows(x), "0 2 4 8 1 3 5");
+    }
+
+    private static void most(Checks c) {
+        Book x = new Book();
+        for (int k = 0; k < 80; k++) {
+            x.entry(k == 0 ? 0 : k == 1 ? 1 : 2, k == 0 ? -1 : k == 1 ? 0 : 1);
+            c.due("all of the last level are the same", x.run(), Math.min(3, k + 1));
+        }
+        for (int k = 2; k < 80; k++) {
+            x.sign(k, k);
+            c.due("one more", x.run(), k == 79 ? 80 : k + 2);
+        }
     }
 }

@@ -2,31 +2,59 @@
 public final class ToldTest {
     public static void main(String[] args) {
         Checks c = new Checks();
-        wrong(c);
+        c.words("Of warning i: 0 its kind, 1 its entry, 2 its number (0 of kind 3);");
+        fields(c);
         kinds(c);
         joined(c);
+        howMany(c);
+        refused(c);
         c.end();
     }
 
-    private static void wrong(Checks c) {
-        IndexSort x = new IndexSort();
-        c.due("none", x.told(-1, 0), 0);
-        c.thrown("the first of none", Checks.INDEX, () -> x.told(0, 0));
-        x.entry(0, -1);
-        c.due("one", x.told(-1, 0), 1);
-        c.due("how many, whatever what is", x.told(-1, 9), 1);
-        c.due("how many, what -1", x.told(-1, -1), 1);
-        int[][] wrong = {{1, 0}, {-2, 0}, {0, 3}, {0, -1}, {Integer.MIN_VALUE, 0}, {Integer.MAX_VALUE, 0}};
-        for (int[] w : wrong) {
-            c.thrown("told " + w[0] + ", " + w[1], Checks.INDEX, () -> x.told(w[0], w[1]));
+    private static void fields(Checks c) {
+        Book x = Checks.tops("a", "b", "c");
+        x.range(1, 99999, false);
+        x.see(1, 2);
+        int[][] due = {{3, 0, 0}, {1, 1, 99999}, {2, 1, 2}, {3, 2, 0}};
+        for (int i = 0; i < 4; i++) {
+            for (int what = 0; what < 3; what++) {
+                c.due("warning " + i + ", " + what, x.told(i, what), due[i][what]);
+            }
         }
-        c.due("kind", x.told(0, 0), 3);
-        c.due("entry", x.told(0, 1), 0);
-        c.due("number", x.told(0, 2), 0);
+    }
+
+    private static void howMany(Checks c) {
+        c.words("i = -1: how many.");
+        Book x = new Book();
+        c.due("none", x.told(-1, 0), 0);
+        x.entry(0, -1);
+        for (int what : new int[] {Integer.MIN_VALUE, -1, 0, 1, 2, 3, 9, Integer.MAX_VALUE}) {
+            c.due("one, what " + what, x.told(-1, what), 1);
+        }
+        x.page(0, 1, 1);
+        c.due("none again", x.told(-1, 0), 0);
+    }
+
+    private static void refused(Checks c) {
+        c.words("IndexOutOfBoundsException.");
+        Book none = new Book();
+        c.thrown("the first of none", Checks.INDEX, () -> none.told(0, 0));
+        Book x = Checks.tops("a", "b");
+        for (int i : new int[] {Integer.MIN_VALUE, -3, -2, 2, 3, Integer.MAX_VALUE}) {
+            for (int what = -1; what <= 3; what++) {
+                int w = what;
+                c.thrown("told " + i + ", " + w, Checks.INDEX, () -> x.told(i, w));
+            }
+        }
+        for (int what : new int[] {Integer.MIN_VALUE, -1, 3, Integer.MAX_VALUE}) {
+            c.thrown("told 0, " + what, Checks.INDEX, () -> x.told(0, what));
+            c.thrown("told 1, " + what, Checks.INDEX, () -> x.told(1, what));
+        }
+        c.due("the last one", x.told(1, 1), 1);
     }
 
     private static void kinds(Checks c) {
-        IndexSort x = new IndexSort();
+        Book x = new Book();
         int d = Checks.top(x, "d");
         int b = Checks.top(x, "b");
         int a = Checks.top(x, "a");
@@ -48,7 +76,7 @@ public final class ToldTest {
     }
 
     private static void joined(Checks c) {
-        IndexSort x = new IndexSort();
+        Book x = new Book();
         int one = Checks.top(x, "a");
         int two = Checks.top(x, "a");
         int b = Checks.top(x, "b");
@@ -61,14 +89,14 @@ public final class ToldTest {
         c.due("pages of its row", Checks.warnings(x), "");
         x.sign(two, 'x');
         c.due("parted", Checks.warnings(x), "3:0:0 2:2:0");
-        IndexSort y = new IndexSort();
+        Book y = new Book();
         Checks.top(y, "a");
         int again = Checks.top(y, "a");
         int under = Checks.under(y, again, 1, "u");
         c.due("something under the same one", Checks.warnings(y), "3:2:0");
         y.see(again, under);
         c.due("each one tells what it sees", Checks.warnings(y), "2:1:2 3:2:0");
-        IndexSort z = new IndexSort();
+        Book z = new Book();
         Checks.top(z, "a");
         int same = Checks.top(z, "a");
         z.see(same, Checks.top(z, "c"));

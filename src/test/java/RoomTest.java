@@ -1,8 +1,11 @@
 import java.lang.management.ManagementFactory;
 
-/** A run of 512 calls makes little: all of a run must live in a room of 7.3 million fields and elements. */
+/**
+ * A run of 512 calls makes little: all of a run must live in a room of 7.3 million fields and elements. Each of them
+ * takes a byte or more; we stay far below that.
+ */
 public final class RoomTest {
-    private static final long MOST_BYTES = 400_000;
+    private static final long MOST_BYTES = 1_000_000;
 
     public static void main(String[] args) {
         Checks c = new Checks();

@@ -7,11 +7,14 @@ import java.util.regex.Pattern;
 
 /** What can be seen in the source of the rules of LANGUAGE.md; runs in the project's folder. */
 public final class RulesTest {
-    private static final Pattern FORBIDDEN = Pattern.compile("->|::|@|\\b(try|catch|finally|synchronized|assert|protected"
-        + "|hashCode|toString|equals|\\w+Exact|System|Thread|Random|java\\.(?!util)\\w+|package|var|instanceof)\\b");
-    private static final Pattern IMPORT = Pattern.compile("import java\\.util\\.(Arrays|NoSuchElementException);");
-    private static final Pattern THROW = Pattern.compile(" *throw new (NoSuchElement|IllegalArgument|UnsupportedOperation"
-        + "|IndexOutOfBounds|ArrayIndexOutOfBounds)Exception\\(\\);");
+    private static final Pattern FORBIDDEN = Pattern.compile("->|::|\\b(finally|synchronized|assert|protected|package|hashCode"
+        + "|\\w+Exact|System\\.(?!arraycopy)\\w+|Thread|Random|java\\.(?!util)\\w+|NaN|getMessage|printStackTrace)\\b");
+    private static final Pattern IMPORT = Pattern.compile("import java\\.util\\.(ArrayList|Arrays|Iterator|List|NoSuchElementException);");
+    /** The classes that are listed there, and the one that the document names for at. */
+    private static final Pattern THROW = Pattern.compile("\\bthrow new (IllegalState|IllegalArgument|IndexOutOfBounds|Arithmetic"
+        + "|UnsupportedOperation|NoSuchElement|Runtime|ArrayIndexOutOfBounds)Exception\\((\"[^\"]*\")?\\);");
+    private static final Pattern CAUGHT = Pattern.compile("\\bcatch \\((final )?(Exception|Throwable|RuntimeException|NullPointer\\w*"
+        + "|ArrayIndex\\w*|IndexOutOf\\w*|Arithmetic\\w*|ClassCast\\w*|NegativeArray\\w*|ArrayStore\\w*)\\b");
     private static final Pattern BLOCK = Pattern.compile("( {4}| {8})(?!if|for|while|switch|\\}).*\\{");
     private static final int LONGEST_METHOD = 60;
 
@@ -31,8 +34,11 @@ public final class RulesTest {
             if (code.contains("import") && !IMPORT.matcher(code).matches()) {
                 c.fail(where + "imports what is not listed");
             }
-            if (code.contains("throw ") && !THROW.matcher(code).matches()) {
+            if (code.contains("throw ") && !THROW.matcher(code).find()) {
                 c.fail(where + "throws in another form");
+            }
+            if (CAUGHT.matcher(code).find()) {
+                c.fail(where + "catches what the machine throws");
             }
             if (code.contains("(") && BLOCK.matcher(code).matches() && lengthOf(lines, k) > LONGEST_METHOD) {
                 c.fail(where + "begins too long a method");

@@ -18,6 +18,7 @@ public final class TermOrderTest {
         test.severalBreaksAreOne();
         test.noBreakAtTheEnds();
         test.noBreaksWithoutTheRule();
+        test.longestKeys();
         test.endOfAKey();
         test.kindsOfUnits();
         test.firstPlace();
@@ -204,6 +205,23 @@ public final class TermOrderTest {
         before("ab", "a-c");
     }
 
+    /** The last units decide against the first place at which the words differ. */
+    private void longestKeys() {
+        c.words("Units one by one: where one key ends it is first;");
+        rules(ON, ON);
+        before("{aaaaaaaaaaaaaaaaaaa", "aaaaaaaaaaaaaaaaaab");
+        before("{1111111111111111111", "1111111111111111112");
+        before("{1a1a1a1a1a1a1a1a1a1", "1a1a1a1a1a1a1a1a1a2");
+        before("{1 1 1 1 1 1 1 1 1 1", "1 1 1 1 1 1 1 1 1 2");
+        before("{a b a b a b a b a b", "a b a b a b a b a c");
+        rules(OFF, ON);
+        before("{1111111111111111111", "1111111111111111112");
+        before("{1 1 1 1 1 1 1 1 1 1", "1 1 1 1 1 1 1 1 1 2");
+        rules(OFF, OFF);
+        before("{1111111111111111111", "1111111111111111112");
+        before("{0000000000000000000", "00000000000000000000");
+    }
+
     private void endOfAKey() {
         c.words("Units one by one: where one key ends it is first;");
         rules(ON, ON);
@@ -290,9 +308,13 @@ public final class TermOrderTest {
         before("[z", "Z[");
         before("Z{", "{z");
         before("\u00da{", "\u00fbz");
-        for (int sign = 0; sign < 126; sign++) {
-            if (isOther(sign) && isOther(sign + 1)) {
-                before("a" + (char) (sign + 128), "a" + (char) (sign + 1));
+        int last = 0;
+        for (int sign = 1; sign < 128; sign++) {
+            if (isOther(sign)) {
+                before("a" + (char) last, "a" + (char) sign);
+                before("a" + (char) (last + 128), "a" + (char) sign);
+                before("a" + (char) (last + 128), "a" + (char) (sign + 128));
+                last = sign;
             }
         }
     }
